@@ -25,7 +25,7 @@ public final class TrackCrossings {
     private static final long WIDE_BAD = -1000000000000000000L;
 
     /** Stands for a height that can not be told; no height times a crossing's divisor comes near. */
-    private static final long NO_HEIGHT = Long.MIN_VALUE;
+    private static final long NO_HEIGHT = -1000000000000000000L;
 
     private final Track[] tracks;
     private final Crossing crossing;
@@ -459,8 +459,8 @@ public final class TrackCrossings {
         }
 
         private static long greatestShared(long one, long other) {
-            long larger = Math.abs(one);
-            long smaller = Math.abs(other);
+            long larger = one < 0 ? -one : one;
+            long smaller = other < 0 ? -other : other;
             for (int step = 0; step < MOST_STEPS && smaller != 0; step++) {
                 long rest = larger % smaller;
                 larger = smaller;
@@ -583,9 +583,10 @@ public final class TrackCrossings {
             if (divisor == 0) {
                 return;
             }
-            for (int m = 0; m < size; m++) {
-                solution[m] = m < size - 1 ? rows[m][size - 1] : 0;
+            for (int m = 0; m < size - 1; m++) {
+                solution[m] = rows[m][size - 1];
             }
+            solution[size - 1] = 0;
             tellOffs(size, divisor);
             addClosed(size, divisor);
         }

@@ -118,6 +118,11 @@ public final class PromisesTest {
         due("track: a bad ninth", x.track(0, 0, 0, 0, 0, 1), -1);
         due("track: still eight", x.count(0), 8);
         due("track: there is none behind", x.hold(8, true), -1);
+        fill(x, 7, 1);
+        x.hold(7, true);
+        due("track: readings of the last", x.count(1), 9);
+        due("track: the last held out", x.count(3), 1);
+        due("track: all without a difference", x.net(2), 8);
     }
 
     // Promise 3
@@ -184,6 +189,10 @@ public final class PromisesTest {
         y.track(-8, 0, 8, -1, 0, 1);
         due("below 0 is above the line", y.cross(0, 2, 0, 0), -8);
         due("and below it above 0", y.cross(0, 2, 0, 1), 17);
+        due("y of a track that climbs", y.cross(0, 2, 1, 0), -8);
+        due("y of a track that climbs, below", y.cross(0, 2, 1, 1), 17);
+        due("y by the other track", y.cross(2, 0, 1, 0), -8);
+        due("x by the other track", y.cross(2, 0, 0, 1), 17);
     }
 
     private static void crossHeights() {
@@ -238,6 +247,8 @@ public final class PromisesTest {
         due("crosses: on one line, end to end", x.crosses(2, 3), 0);
         x.track(9, 0, 9, 5, 0, 1);
         due("crosses: end to end with a turn", x.crosses(3, 4), 1);
+        due("crosses: the last end of one on the first of the other", x.crosses(2, 4), 1);
+        due("crosses: the first on the last", x.crosses(4, 2), 1);
         x.track(1, 1, 5, 5, 0, 1);
         due("crosses: the lines, but not the track", x.crosses(1, 5), 0);
         due("crosses: nor of the other", x.crosses(5, 0), 0);
@@ -409,8 +420,14 @@ public final class PromisesTest {
             x.hold(held, false);
         }
         x.read(0, 6, MISSING);
-        due("loop: missing", x.loop(0, 1, 2), CROSS_NO);
+        due("loop: the last alone is missing", x.loop(0, 1, 2), CROSS_NO);
         x.read(0, 6, 10);
+        x.read(0, 2, MISSING);
+        due("loop: the first alone is missing", x.loop(0, 1, 2), CROSS_NO);
+        x.read(0, 2, 5);
+        x.read(1, 4, MISSING);
+        due("loop: the second alone is missing", x.loop(0, 1, 2), CROSS_NO);
+        x.read(1, 4, 0);
         due("loop: back again", x.loop(0, 1, 2), -60);
         x.track(-8, 1, 8, 1, 0, 1);
         fill(x, 3, 0);
