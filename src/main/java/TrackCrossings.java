@@ -474,8 +474,9 @@ public final class TrackCrossings {
      * What every track is off by. In a net of n tracks the last one is set to 0, which leaves a
      * whole-number system of n - 1 rows; then all are moved alike, so that their sum is 0.
      *
-     * Everything fits a long: a divisor of a net counts its spanning trees (8^6 at most), and a
-     * number to be divided by it is at most that times all differences (28 times 200000).
+     * Everything fits a long: a divisor of a net counts its spanning trees (8^6 at most), a number
+     * to be divided by it is at most that times all differences (28 times 200000), and a product
+     * of two such on the way stays below 10^18.
      */
     private static final class Closing {
         final Fraction[] offs;
