@@ -2,17 +2,13 @@ import java.util.Random;
 
 /** Eight tracks that all cross, with the largest differences there can be: nothing overflows. */
 public final class ExtremesTest {
-    private static final int[][] ENDS = {{-100, -100, 100, 97}, {-100, -71, 100, 68}, {-100, -40, 100, 43},
-        {-100, -13, 100, 12}, {-100, 18, 100, -17}, {-100, 47, 100, -44}, {-100, 73, 100, -76},
-        {-100, 100, 100, -99}};
-
     private final TrackCrossings real = new TrackCrossings();
     private final Model model = new Model();
     private final Checks checks;
 
     private ExtremesTest(Checks checks) {
         this.checks = checks;
-        for (int[] e : ENDS) {
+        for (int[] e : Scenes.FAN) {
             checks.due("track", real.track(e[0], e[1], e[2], e[3], 0, 1000000),
                 model.track(e[0], e[1], e[2], e[3], 0, 1000000));
         }

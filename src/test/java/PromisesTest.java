@@ -1,12 +1,5 @@
 /** Each promise of the document with answers worked out by hand: what is usual, edges, wrong calls. */
 public final class PromisesTest {
-    private static final int MISSING = 200000;
-    private static final long CROSS_BAD = -1000000001L;
-    private static final long CROSS_NO = -1000000002L;
-    private static final long WIDE_BAD = -1000000000000000000L;
-    private static final int FAR = Integer.MAX_VALUE;
-    private static final int DEEP = Integer.MIN_VALUE;
-
     private static final Checks CHECKS = new Checks("PromisesTest");
 
     public static void main(String[] args) {
@@ -38,32 +31,6 @@ public final class PromisesTest {
         CHECKS.due(call, got, want);
     }
 
-    private static void fill(TrackCrossings x, int track, int height) {
-        for (int i = 0; i <= 8; i++) {
-            x.read(track, i, height);
-        }
-    }
-
-    /** A cross of two tracks that meet at 0, 0 in the middle of both. */
-    private static TrackCrossings plus() {
-        TrackCrossings x = new TrackCrossings();
-        x.track(-8, 0, 8, 0, 0, 16);
-        x.track(0, -8, 0, 8, 100, 116);
-        return x;
-    }
-
-    /** Three tracks, each crossing both others in a place of its own, with heights h0, h1, h2. */
-    private static TrackCrossings triangle(int h0, int h1, int h2) {
-        TrackCrossings x = new TrackCrossings();
-        x.track(-8, 0, 8, 0, 0, 1);
-        x.track(-8, -4, 8, 12, 0, 1);
-        x.track(-4, 8, 12, -8, 0, 1);
-        fill(x, 0, h0);
-        fill(x, 1, h1);
-        fill(x, 2, h2);
-        return x;
-    }
-
     // Promise 1
     private static void aNewObject() {
         TrackCrossings x = new TrackCrossings();
@@ -77,7 +44,7 @@ public final class PromisesTest {
         due("new: behind()", x.behind(), 0);
         due("new: box(50, 0, 0, 0)", x.box(50, 0, 0, 0), 0);
         due("new: box(50, 0, 0, 1)", x.box(50, 0, 0, 1), 0);
-        due("new: off(0, 0)", x.off(0, 0), WIDE_BAD);
+        due("new: off(0, 0)", x.off(0, 0), Scenes.WIDE_BAD);
         due("new: seen(0, 1, 0)", x.seen(0, 1, 0), -1);
         new TrackCrossings().track(0, 0, 1, 1, 0, 1);
         due("new: objects share nothing", x.count(0), 0);
@@ -87,7 +54,7 @@ public final class PromisesTest {
     private static void tracks() {
         TrackCrossings x = new TrackCrossings();
         due("track: one place", x.track(3, 4, 3, 4, 0, 1), -1);
-        int[] outside = {-101, 101, FAR, DEEP};
+        int[] outside = {-101, 101, Scenes.FAR, Scenes.DEEP};
         for (int place : outside) {
             due("track: x0 " + place, x.track(place, 0, 1, 1, 0, 1), -1);
             due("track: y0 " + place, x.track(0, place, 1, 1, 0, 1), -1);
@@ -99,7 +66,7 @@ public final class PromisesTest {
         due("track: one time", x.track(0, 0, 1, 1, 5, 5), -1);
         due("track: back in time", x.track(0, 0, 1, 1, 6, 5), -1);
         due("track: both too late", x.track(0, 0, 1, 1, 1000001, 1000002), -1);
-        due("track: far times", x.track(0, 0, 1, 1, DEEP, FAR), -1);
+        due("track: far times", x.track(0, 0, 1, 1, Scenes.DEEP, Scenes.FAR), -1);
         due("track: none of them stands", x.count(0), 0);
         due("track: the edges", x.track(-100, -100, 100, 100, 0, 1000000), 0);
         due("track: the other edges", x.track(100, 100, -100, -100, 999999, 1000000), 1);
@@ -118,7 +85,7 @@ public final class PromisesTest {
         due("track: a bad ninth", x.track(0, 0, 0, 0, 0, 1), -1);
         due("track: still eight", x.count(0), 8);
         due("track: there is none behind", x.hold(8, true), -1);
-        fill(x, 7, 1);
+        Scenes.fill(x, 7, 1);
         x.hold(7, true);
         due("track: readings of the last", x.count(1), 9);
         due("track: the last held out", x.count(3), 1);
@@ -127,17 +94,18 @@ public final class PromisesTest {
 
     // Promise 3
     private static void readings() {
-        TrackCrossings x = plus();
-        due("read: at first", x.read(0, 0, 10000), MISSING);
+        TrackCrossings x = Scenes.plus();
+        due("read: at first", x.read(0, 0, 10000), Scenes.MISSING);
         due("read: what it was", x.read(0, 0, -10000), 10000);
-        due("read: below 0", x.read(0, 0, MISSING), -10000);
-        due("read: missing again", x.read(0, 0, 0), MISSING);
+        due("read: below 0", x.read(0, 0, Scenes.MISSING), -10000);
+        due("read: missing again", x.read(0, 0, 0), Scenes.MISSING);
         due("read: 0 is a height", x.read(0, 0, 7), 0);
-        due("read: the last", x.read(1, 8, 5), MISSING);
-        due("read: of its own track", x.read(1, 0, 5), MISSING);
-        int[][] wrong = {{-1, 0, 0}, {2, 0, 0}, {FAR, 0, 0}, {DEEP, 0, 0}, {0, -1, 0}, {0, 9, 0}, {0, FAR, 0},
-            {0, DEEP, 0}, {0, 0, 10001}, {0, 0, -10001}, {0, 0, 199999}, {0, 0, 200001}, {0, 0, -200000},
-            {0, 0, FAR}, {0, 0, DEEP}};
+        due("read: the last", x.read(1, 8, 5), Scenes.MISSING);
+        due("read: of its own track", x.read(1, 0, 5), Scenes.MISSING);
+        int[][] wrong = {{-1, 0, 0}, {2, 0, 0}, {Scenes.FAR, 0, 0}, {Scenes.DEEP, 0, 0}, {0, -1, 0}, {0, 9, 0},
+            {0, Scenes.FAR, 0},
+            {0, Scenes.DEEP, 0}, {0, 0, 10001}, {0, 0, -10001}, {0, 0, 199999}, {0, 0, 200001}, {0, 0, -200000},
+            {0, 0, Scenes.FAR}, {0, 0, Scenes.DEEP}};
         for (int[] w : wrong) {
             due("read(" + w[0] + ", " + w[1] + ", " + w[2] + ")", x.read(w[0], w[1], w[2]), 300000);
         }
@@ -147,14 +115,14 @@ public final class PromisesTest {
 
     // Promise 4
     private static void holding() {
-        TrackCrossings x = plus();
+        TrackCrossings x = Scenes.plus();
         due("hold: at first", x.hold(0, false), 0);
         due("hold: not yet", x.hold(0, true), 0);
         due("hold: again", x.hold(0, true), 1);
         due("hold: the other not", x.hold(1, false), 0);
         due("hold: no more", x.hold(0, false), 1);
         due("hold: not any more", x.hold(0, false), 0);
-        int[] none = {-1, 2, FAR, DEEP};
+        int[] none = {-1, 2, Scenes.FAR, Scenes.DEEP};
         for (int track : none) {
             due("hold(" + track + ")", x.hold(track, true), -1);
         }
@@ -167,8 +135,8 @@ public final class PromisesTest {
         // On y = 1 at x = 1/3 the second, which climbs by 3 while it goes 1 on, is at its share 2/3.
         x.track(-3, 1, 2, 1, 10, 40);
         x.track(-1, -3, 1, 3, 0, 7);
-        long[][] want = {{1, 3}, {1, 1}, {30, 1}, {14, 3}, {2, 3}, {2, 3}, {CROSS_NO, CROSS_NO},
-            {CROSS_NO, CROSS_NO}};
+        long[][] want = {{1, 3}, {1, 1}, {30, 1}, {14, 3}, {2, 3}, {2, 3}, {Scenes.CROSS_NO, Scenes.CROSS_NO},
+            {Scenes.CROSS_NO, Scenes.CROSS_NO}};
         for (int what = 0; what < 8; what++) {
             for (int part = 0; part < 2; part++) {
                 due("cross(0, 1, " + what + ", " + part + ")", x.cross(0, 1, what, part), want[what][part]);
@@ -196,25 +164,25 @@ public final class PromisesTest {
     }
 
     private static void crossHeights() {
-        TrackCrossings x = plus();
+        TrackCrossings x = Scenes.plus();
         x.read(0, 4, -3);
         due("cross: at an eighth one is needed", x.cross(0, 1, 6, 0), -3);
-        due("cross: the other's is missing", x.cross(0, 1, 7, 0), CROSS_NO);
+        due("cross: the other's is missing", x.cross(0, 1, 7, 0), Scenes.CROSS_NO);
         due("cross: named the other way", x.cross(1, 0, 7, 1), 1);
         x.hold(0, true);
         due("cross: of a track held out too", x.cross(0, 1, 6, 0), -3);
         // At x = 3 track 0 is at share 11/16: half way from reading 5 to 6.
         x.track(3, -8, 3, 8, 0, 1);
         x.read(0, 5, 10);
-        due("cross: the right one is missing", x.cross(0, 2, 6, 0), CROSS_NO);
+        due("cross: the right one is missing", x.cross(0, 2, 6, 0), Scenes.CROSS_NO);
         x.read(0, 6, 5);
         due("cross: half way above", x.cross(0, 2, 6, 0), 15);
         due("cross: half way below", x.cross(0, 2, 6, 1), 2);
-        x.read(0, 5, MISSING);
-        due("cross: the left one is missing", x.cross(0, 2, 6, 1), CROSS_NO);
+        x.read(0, 5, Scenes.MISSING);
+        due("cross: the left one is missing", x.cross(0, 2, 6, 1), Scenes.CROSS_NO);
         due("cross: places stand without heights", x.cross(0, 2, 4, 1), 16);
         x.track(8, -1, 8, 1, 0, 1);
-        due("cross: the last reading is missing", x.cross(0, 3, 6, 0), CROSS_NO);
+        due("cross: the last reading is missing", x.cross(0, 3, 6, 0), Scenes.CROSS_NO);
         x.read(0, 8, 77);
         due("cross: the last reading alone", x.cross(0, 3, 6, 0), 77);
         x.track(-8, -1, -8, 1, 0, 1);
@@ -223,21 +191,22 @@ public final class PromisesTest {
     }
 
     private static void crossWrong() {
-        TrackCrossings x = plus();
+        TrackCrossings x = Scenes.plus();
         x.track(-8, 1, 8, 1, 0, 1);
         int[][] wrong = {{0, 0, 0, 0}, {0, 3, 0, 0}, {3, 0, 0, 0}, {-1, 0, 0, 0}, {0, -1, 0, 0}, {0, 1, -1, 0},
-            {0, 1, 8, 0}, {0, 1, 0, -1}, {0, 1, 0, 2}, {FAR, DEEP, 0, 0}, {0, 1, DEEP, FAR}, {0, 2, 8, 0},
+            {0, 1, 8, 0}, {0, 1, 0, -1}, {0, 1, 0, 2}, {Scenes.FAR, Scenes.DEEP, 0, 0},
+            {0, 1, Scenes.DEEP, Scenes.FAR}, {0, 2, 8, 0},
             {0, 2, 0, 2}};
         for (int[] w : wrong) {
             due("cross(" + w[0] + ", " + w[1] + ", " + w[2] + ", " + w[3] + ")", x.cross(w[0], w[1], w[2], w[3]),
-                CROSS_BAD);
+                Scenes.CROSS_BAD);
         }
-        due("cross: beside one another", x.cross(0, 2, 0, 0), CROSS_NO);
+        due("cross: beside one another", x.cross(0, 2, 0, 0), Scenes.CROSS_NO);
     }
 
     // Promise 6
     private static void crossing() {
-        TrackCrossings x = plus();
+        TrackCrossings x = Scenes.plus();
         due("crosses: in the middle", x.crosses(0, 1), 1);
         due("crosses: the other way", x.crosses(1, 0), 1);
         x.track(0, 0, 9, 0, 0, 1);
@@ -259,24 +228,24 @@ public final class PromisesTest {
         due("crosses(0, 0)", x.crosses(0, 0), -1);
         due("crosses(0, 7)", x.crosses(0, 7), -1);
         due("crosses(-1, 0)", x.crosses(-1, 0), -1);
-        due("crosses(FAR, DEEP)", x.crosses(FAR, DEEP), -1);
+        due("crosses(FAR, DEEP)", x.crosses(Scenes.FAR, Scenes.DEEP), -1);
     }
 
     // Promise 7
     private static void differences() {
-        TrackCrossings x = plus();
-        due("difference: both missing", x.difference(0, 1), CROSS_NO);
+        TrackCrossings x = Scenes.plus();
+        due("difference: both missing", x.difference(0, 1), Scenes.CROSS_NO);
         x.read(0, 4, 5);
-        due("difference: one missing", x.difference(0, 1), CROSS_NO);
+        due("difference: one missing", x.difference(0, 1), Scenes.CROSS_NO);
         x.read(1, 4, 7);
         due("difference: ten times", x.difference(0, 1), -20);
-        due("difference(1, 0)", x.difference(1, 0), CROSS_BAD);
-        due("difference(0, 0)", x.difference(0, 0), CROSS_BAD);
-        due("difference(0, 2)", x.difference(0, 2), CROSS_BAD);
-        due("difference(-1, 1)", x.difference(-1, 1), CROSS_BAD);
-        due("difference(DEEP, FAR)", x.difference(DEEP, FAR), CROSS_BAD);
+        due("difference(1, 0)", x.difference(1, 0), Scenes.CROSS_BAD);
+        due("difference(0, 0)", x.difference(0, 0), Scenes.CROSS_BAD);
+        due("difference(0, 2)", x.difference(0, 2), Scenes.CROSS_BAD);
+        due("difference(-1, 1)", x.difference(-1, 1), Scenes.CROSS_BAD);
+        due("difference(DEEP, FAR)", x.difference(Scenes.DEEP, Scenes.FAR), Scenes.CROSS_BAD);
         x.hold(1, true);
-        due("difference: held out", x.difference(0, 1), CROSS_NO);
+        due("difference: held out", x.difference(0, 1), Scenes.CROSS_NO);
         x.hold(1, false);
         due("difference: no more held out", x.difference(0, 1), -20);
         // Share 2/3 of a is 1/3 on from reading 5 to 6, so 1 up is a third: 10/3 is 3, -10/3 is -4.
@@ -290,7 +259,7 @@ public final class PromisesTest {
         y.read(0, 6, -1);
         due("difference: down below 0 too", y.difference(0, 1), -4);
         y.track(0, 2, 2, 2, 0, 1);
-        due("difference: no crossing", y.difference(1, 2), CROSS_NO);
+        due("difference: no crossing", y.difference(1, 2), Scenes.CROSS_NO);
         y.read(0, 5, 10000);
         y.read(0, 6, 10000);
         y.read(1, 4, -10000);
@@ -299,7 +268,7 @@ public final class PromisesTest {
 
     // Promise 8
     private static void nets() {
-        TrackCrossings x = triangle(1, 2, 3);
+        TrackCrossings x = Scenes.triangle(1, 2, 3);
         due("net: differences", x.net(0), 3);
         due("net: nets", x.net(1), 1);
         due("net: alone", x.net(2), 0);
@@ -324,17 +293,17 @@ public final class PromisesTest {
         due("net: as before", x.net(0), 3);
         due("net(-1)", x.net(-1), -1);
         due("net(3)", x.net(3), -1);
-        due("net(FAR)", x.net(FAR), -1);
-        due("net(DEEP)", x.net(DEEP), -1);
+        due("net(FAR)", x.net(Scenes.FAR), -1);
+        due("net(DEEP)", x.net(Scenes.DEEP), -1);
     }
 
     // Promise 9
     private static void offs() {
-        TrackCrossings x = plus();
+        TrackCrossings x = Scenes.plus();
         due("off: none told", x.off(0, 0), 0);
         due("off: 0 is by 1", x.off(0, 1), 1);
-        fill(x, 0, 1);
-        fill(x, 1, 0);
+        Scenes.fill(x, 0, 1);
+        Scenes.fill(x, 1, 0);
         due("off: half of 10", x.off(0, 0), 5);
         due("off: the other half", x.off(1, 0), -5);
         due("off: by 1", x.off(1, 1), 1);
@@ -347,24 +316,24 @@ public final class PromisesTest {
         y.track(-8, 0, 8, 0, 0, 1);
         y.track(-1, -1, -1, 1, 0, 1);
         y.track(1, -1, 1, 1, 0, 1);
-        fill(y, 0, 0);
-        fill(y, 1, -1);
-        fill(y, 2, 2);
+        Scenes.fill(y, 0, 0);
+        Scenes.fill(y, 1, -1);
+        Scenes.fill(y, 2, 2);
         due("off: of a chain, the middle", y.off(0, 0), -10);
         due("off: of a chain, the middle, below", y.off(0, 1), 3);
         due("off: of a chain, the first end", y.off(1, 0), -40);
         due("off: of a chain, the first end, below", y.off(1, 1), 3);
         due("off: of a chain, the last end", y.off(2, 0), 50);
         due("off: of a chain, the last end, below", y.off(2, 1), 3);
-        int[][] wrong = {{3, 0}, {-1, 0}, {0, 2}, {0, -1}, {FAR, 0}, {DEEP, 1}, {0, FAR}};
+        int[][] wrong = {{3, 0}, {-1, 0}, {0, 2}, {0, -1}, {Scenes.FAR, 0}, {Scenes.DEEP, 1}, {0, Scenes.FAR}};
         for (int[] w : wrong) {
-            due("off(" + w[0] + ", " + w[1] + ")", y.off(w[0], w[1]), WIDE_BAD);
+            due("off(" + w[0] + ", " + w[1] + ")", y.off(w[0], w[1]), Scenes.WIDE_BAD);
         }
     }
 
     // Promises 10 and 11
     private static void squares() {
-        TrackCrossings x = triangle(0, 10, 20);
+        TrackCrossings x = Scenes.triangle(0, 10, 20);
         due("before: all that differ", x.before(), 100 * 100 + 100 * 100 + 200 * 200);
         due("behind: all closes", x.behind(), 0);
         // Track 0 meets 1 at share 1/4 and 2 at share 3/4: 1 more at the one alone opens the loop by 10.
@@ -380,14 +349,14 @@ public final class PromisesTest {
 
     /** Two loops, each open by 10: 100/3 and 100/3 make 66, rounded once. */
     private static void squaresOfSeveralNets() {
-        TrackCrossings x = triangle(0, 10, 20);
+        TrackCrossings x = Scenes.triangle(0, 10, 20);
         x.read(0, 2, 1);
         x.track(42, 50, 58, 50, 0, 1);
         x.track(42, 46, 58, 62, 0, 1);
         x.track(46, 58, 62, 42, 0, 1);
-        fill(x, 3, 0);
-        fill(x, 4, 0);
-        fill(x, 5, 0);
+        Scenes.fill(x, 3, 0);
+        Scenes.fill(x, 4, 0);
+        Scenes.fill(x, 5, 0);
         due("behind: the second closes", x.behind(), 33);
         x.read(3, 2, 1);
         due("net: two", x.net(1), 2);
@@ -399,7 +368,7 @@ public final class PromisesTest {
 
     // Promise 12
     private static void loops() {
-        TrackCrossings x = triangle(3, 1, -4);
+        TrackCrossings x = Scenes.triangle(3, 1, -4);
         due("loop: closes", x.loop(0, 1, 2), 0);
         x.read(0, 2, 5);
         due("loop: of the first", x.loop(0, 1, 2), 20);
@@ -410,34 +379,34 @@ public final class PromisesTest {
         x.read(1, 6, 0);
         due("loop: of the second", x.loop(0, 1, 2), -60);
         int[][] wrong = {{0, 2, 1}, {1, 0, 2}, {2, 1, 0}, {0, 0, 1}, {0, 1, 1}, {-1, 0, 1}, {0, 1, 3},
-            {DEEP, 0, FAR}};
+            {Scenes.DEEP, 0, Scenes.FAR}};
         for (int[] w : wrong) {
-            due("loop(" + w[0] + ", " + w[1] + ", " + w[2] + ")", x.loop(w[0], w[1], w[2]), CROSS_BAD);
+            due("loop(" + w[0] + ", " + w[1] + ", " + w[2] + ")", x.loop(w[0], w[1], w[2]), Scenes.CROSS_BAD);
         }
         for (int held = 0; held < 3; held++) {
             x.hold(held, true);
-            due("loop: held out " + held, x.loop(0, 1, 2), CROSS_NO);
+            due("loop: held out " + held, x.loop(0, 1, 2), Scenes.CROSS_NO);
             x.hold(held, false);
         }
-        x.read(0, 6, MISSING);
-        due("loop: the last alone is missing", x.loop(0, 1, 2), CROSS_NO);
+        x.read(0, 6, Scenes.MISSING);
+        due("loop: the last alone is missing", x.loop(0, 1, 2), Scenes.CROSS_NO);
         x.read(0, 6, 10);
-        x.read(0, 2, MISSING);
-        due("loop: the first alone is missing", x.loop(0, 1, 2), CROSS_NO);
+        x.read(0, 2, Scenes.MISSING);
+        due("loop: the first alone is missing", x.loop(0, 1, 2), Scenes.CROSS_NO);
         x.read(0, 2, 5);
-        x.read(1, 4, MISSING);
-        due("loop: the second alone is missing", x.loop(0, 1, 2), CROSS_NO);
+        x.read(1, 4, Scenes.MISSING);
+        due("loop: the second alone is missing", x.loop(0, 1, 2), Scenes.CROSS_NO);
         x.read(1, 4, 0);
         due("loop: back again", x.loop(0, 1, 2), -60);
         x.track(-8, 1, 8, 1, 0, 1);
-        fill(x, 3, 0);
-        due("loop: two that do not cross", x.loop(0, 1, 3), CROSS_NO);
+        Scenes.fill(x, 3, 0);
+        due("loop: two that do not cross", x.loop(0, 1, 3), Scenes.CROSS_NO);
     }
 
     // Promise 13
     private static void tones() {
         TrackCrossings x = new TrackCrossings();
-        int[] wrong = {0, -1, 1000001, FAR, DEEP};
+        int[] wrong = {0, -1, 1000001, Scenes.FAR, Scenes.DEEP};
         for (int p : wrong) {
             due("tone(" + p + ")", x.tone(p), -1);
         }
@@ -474,7 +443,7 @@ public final class PromisesTest {
         due("seen: the slowest", x.seen(1, 999999, 0), 999999000);
         due("seen: of the longest", x.seen(1, 1, 0), 1000);
         int[][] wrong = {{3, 1, 0}, {-1, 1, 0}, {0, 0, 0}, {0, 1000001, 0}, {0, -1, 0}, {0, 1, 2}, {0, 1, -1},
-            {0, 8000, 2}, {FAR, 1, 0}, {0, DEEP, 0}};
+            {0, 8000, 2}, {Scenes.FAR, 1, 0}, {0, Scenes.DEEP, 0}};
         for (int[] w : wrong) {
             due("seen(" + w[0] + ", " + w[1] + ", " + w[2] + ")", x.seen(w[0], w[1], w[2]), -1);
         }
@@ -507,8 +476,8 @@ public final class PromisesTest {
         due("apart: too large a product, just", x.apart(3, 5, 600000, 1500), 1);
         due("apart: too large a product, just not", x.apart(3, 5, 600000, 1499), 0);
         int[][] wrong = {{0, 0, 1, 1}, {0, 6, 1, 1}, {6, 0, 1, 1}, {-1, 0, 1, 1}, {0, -1, 1, 1}, {0, 1, 0, 1},
-            {0, 1, 1000001, 1}, {0, 1, 1, 0}, {0, 1, 1, 100001}, {0, 1, 1, -1}, {DEEP, FAR, 1, 1},
-            {0, 1, FAR, DEEP}};
+            {0, 1, 1000001, 1}, {0, 1, 1, 0}, {0, 1, 1, 100001}, {0, 1, 1, -1}, {Scenes.DEEP, Scenes.FAR, 1, 1},
+            {0, 1, Scenes.FAR, Scenes.DEEP}};
         for (int[] w : wrong) {
             due("apart(" + w[0] + ", " + w[1] + ", " + w[2] + ", " + w[3] + ")",
                 x.apart(w[0], w[1], w[2], w[3]), -1);
@@ -532,7 +501,7 @@ public final class PromisesTest {
         due("box: a half below 0", x.box(1, -1, -1, 1), 40);
         due("box: empty", x.box(1, 0, 1, 0), 0);
         due("box: empty, sum", x.box(1, 100, -100, 1), 0);
-        x.read(0, 4, MISSING);
+        x.read(0, 4, Scenes.MISSING);
         due("box: one missing", x.box(2, 0, 0, 0), 1);
         x.hold(0, true);
         due("box: held out", x.box(2, 0, 0, 0), 0);
@@ -545,15 +514,16 @@ public final class PromisesTest {
         x.read(2, 1, 5);
         due("box: the first corner", x.box(1, -100, -100, 0), 2);
         int[][] wrong = {{0, 0, 0, 0}, {51, 0, 0, 0}, {-1, 0, 0, 0}, {1, 101, 0, 0}, {1, -101, 0, 0},
-            {1, 0, 101, 0}, {1, 0, -101, 0}, {1, 0, 0, 2}, {1, 0, 0, -1}, {DEEP, 0, 0, 0}, {FAR, FAR, FAR, FAR}};
+            {1, 0, 101, 0}, {1, 0, -101, 0}, {1, 0, 0, 2}, {1, 0, 0, -1}, {Scenes.DEEP, 0, 0, 0},
+            {Scenes.FAR, Scenes.FAR, Scenes.FAR, Scenes.FAR}};
         for (int[] w : wrong) {
             due("box(" + w[0] + ", " + w[1] + ", " + w[2] + ", " + w[3] + ")", x.box(w[0], w[1], w[2], w[3]),
-                WIDE_BAD);
+                Scenes.WIDE_BAD);
         }
     }
 
     private static void boxesLessOff() {
-        TrackCrossings x = plus();
+        TrackCrossings x = Scenes.plus();
         // The difference is 10/4 rounded down to 2, and then 5: OFF is 5/2 and -5/2.
         x.track(1, -8, 1, 8, 0, 1);
         x.read(0, 4, 0);
@@ -569,12 +539,12 @@ public final class PromisesTest {
 
     // Promise 17
     private static void counts() {
-        TrackCrossings x = plus();
+        TrackCrossings x = Scenes.plus();
         due("count: tracks", x.count(0), 2);
         due("count: readings", x.count(1), 0);
-        fill(x, 1, 0);
+        Scenes.fill(x, 1, 0);
         x.read(0, 3, -10000);
-        x.read(1, 3, MISSING);
+        x.read(1, 3, Scenes.MISSING);
         due("count: readings told", x.count(1), 9);
         x.tone(5);
         due("count: tones", x.count(2), 1);
@@ -585,7 +555,7 @@ public final class PromisesTest {
         due("count: both held out", x.count(3), 2);
         x.hold(1, false);
         due("count: one again", x.count(3), 1);
-        int[] wrong = {-1, 4, FAR, DEEP};
+        int[] wrong = {-1, 4, Scenes.FAR, Scenes.DEEP};
         for (int what : wrong) {
             due("count(" + what + ")", x.count(what), -1);
         }
