@@ -31,7 +31,11 @@ public final class ReadmeTest {
 
     private void checkExample(String readme) throws ReflectiveOperationException {
         Matcher example = EXAMPLE.matcher(readme);
-        CHECKS.holds("there is an example", example.find());
+        boolean isThere = example.find();
+        CHECKS.holds("there is an example", isThere);
+        if (!isThere) {
+            return;
+        }
         String[] lines = example.group(1).split("\n");
         CHECKS.holds("it makes the object", lines[0].equals("TrackCrossings map = new TrackCrossings();"));
         for (int i = 1; i < lines.length; i++) {
@@ -76,7 +80,9 @@ public final class ReadmeTest {
             } else if (named.containsKey(words[i])) {
                 values[i] = named.get(words[i]).intValue();
             } else {
-                values[i] = Integer.valueOf(words[i]);
+                boolean isNumber = words[i].matches("-?\\d{1,9}");
+                CHECKS.holds("is a number or a name made before: " + words[i], isNumber);
+                values[i] = isNumber ? Integer.parseInt(words[i]) : 0;
             }
         }
         return values;
